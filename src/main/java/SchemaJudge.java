@@ -368,11 +368,11 @@ public final class SchemaJudge {
         }
 
         boolean spells(int v, String word) {
-            if (size(v) != word.length()) {
+            if (v < 0 || v >= total || sizes[v] != word.length() || starts[v] + sizes[v] > cells.length) {
                 return false;
             }
             for (int i = 0; i < word.length(); i++) {
-                if (cell(v, i) != word.charAt(i)) {
+                if (cells[starts[v] + i] != word.charAt(i)) {
                     return false;
                 }
             }
@@ -1538,7 +1538,7 @@ public final class SchemaJudge {
         private int readNumber() {
             int number = NONE;
             for (int i = 0; i < 3; i++) {
-                int token = peek(0);
+                int token = position < tokenCount ? tokens[position] : NO_TOKEN;
                 if (token < '0' || token > '9') {
                     return number;
                 }
