@@ -11,6 +11,8 @@ public final class AlikeTest {
         alike("12", "1.2", false);
         alike("\"a\"", "\"\\u0061\"", true);
         alike("\"\ud83d\ude00\"", "\"\\ud83d\\ude00\"", true);
+        alike("\"\\b\\f\\n\\r\\t\\/\\\"\\\\\"", "\"\\u0008\\u000C\\u000a\\u000D\\u0009\\u002f\\u0022\\u005c\"", true);
+        alike("\"\udbff\udfff\ud800\udc00\"", "\"\\udbff\\udfff\\ud800\\udc00\"", true);
         alike("\"a\"", "\"A\"", false);
         alike("\"\u00e9\"", "\"e\u0301\"", false);
         alike("\"1\"", "1", false);

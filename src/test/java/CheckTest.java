@@ -86,7 +86,7 @@ public final class CheckTest {
     private static void withStrings() {
         keyword("$ref", "1 null true [] {}", "1 at 2");
         keyword("pattern", "1 null true [] {}", "1 at 2");
-        keyword("$anchor", "\"a\" \"_\" \"Z9-.\" \"a.b-c_d\"", "0 at -1");
+        keyword("$anchor", "\"a\" \"z\" \"A\" \"_\" \"Z0a9zAZ-.\" \"a.b-c_d\"", "0 at -1");
         keyword("$anchor", "\"\" \"1a\" \"-a\" \".a\" \"a/b\" \"\u00e9\" \"a%\" 1 null", "1 at 2");
         good("{\"const\":null}", "{\"const\":[1,{}]}", "{\"enum\":[]}", "{\"enum\":[1,1]}");
         keyword("enum", "{} null 1 \"a\"", "1 at 2");
@@ -100,6 +100,7 @@ public final class CheckTest {
         keyword("type", "\"Null\" \"any\" \"\" null 1 {} []", "1 at 2");
         keyword("type", "[\"null\",\"any\"] [\"null\",1] [\"null\",\"null\"]", "1 at 4");
         keyword("type", "[\"integer\",\"null\",\"integer\",\"null\"]", "1 at 5");
+        keyword("type", "[\"integer\",\"null\",\"null\"]", "1 at 5");
     }
 
     private static void withNames() {
@@ -108,7 +109,9 @@ public final class CheckTest {
         keyword("required", "[\"a\",1] [\"a\",\"\\u0061\"] [\"a\",[\"a\"]]", "1 at 4");
         keyword("dependentRequired", "{} {\"a\":[]} {\"a\":[\"b\"],\"b\":[\"b\",\"a\"]}", "0 at -1");
         keyword("dependentRequired", "[] null", "1 at 2");
+        keyword("required", "[\"a\",\"b\",\"b\"]", "1 at 5");
         keyword("dependentRequired", "{\"a\":1} {\"a\":{}}", "1 at 4");
+        keyword("dependentRequired", "{\"a\":[],\"b\":[],\"c\":1}", "1 at 8");
         keyword("dependentRequired", "{\"a\":[\"b\",\"b\"]} {\"a\":[\"b\",null]}", "1 at 6");
     }
 
@@ -164,6 +167,23 @@ public final class CheckTest {
             "#/$defs/a~", "#/$defs/a~2b", "#/$defs/a~~1b", "#/$defs/a/b", "#/$defs//x", "#/$defs/~1", "http://x/#", "./#", "#/allOf/1/not/"};
         leads(lead, "0 at -1");
         leads(lost, "5 at 6");
+        twins("a/b", "a~1b", "a~0b");
+        twins("a~b", "a~0b", "a~1b");
+        twins("~1", "~01", "~1");
+        twins("/", "~1", "~01");
+        twins("%4z%z4%", "%4z%z4%", "%4z%z4");
+        String eleven = "{\"properties\":{\"r\":{\"$ref\":\"#/allOf/REF\"}},\"allOf\":[{},{},{},{},{},{},{},{},{},{},{}]}";
+        Bench.checks(eleven.replace("REF", "10"), "0 at -1");
+        Bench.checks(eleven.replace("REF", "9"), "0 at -1");
+        Bench.checks(eleven.replace("REF", "11"), "5 at 6");
+        Bench.checks(eleven.replace("REF", "010"), "5 at 6");
+    }
+
+    /** Of two ways to write a name one leads to it. */
+    private static void twins(String name, String lead, String lost) {
+        String schema = "{\"properties\":{\"r\":{\"$ref\":\"#/$defs/REF\"}},\"$defs\":{\"" + name + "\":{}}}";
+        Bench.checks(schema.replace("REF", lead), "0 at -1");
+        Bench.checks(schema.replace("REF", lost), "5 at 6");
     }
 
     private static void leads(String[] references, String due) {

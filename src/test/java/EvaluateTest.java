@@ -73,6 +73,7 @@ public final class EvaluateTest {
         bad("{'maxItems':2,'minItems':1,'uniqueItems':true}", "0:2", "[1,2,3]");
         bad("{'maxItems':2,'minItems':1,'uniqueItems':true}", "0:2 0:6", "[1,2,1.0]");
         good("{'uniqueItems':false}", "[1,1]");
+        bad("{'uniqueItems':true}", "0:2", "[0,1,1]", "[0,1,0]", "[0,0,1]", "[0,1,2,3,2]");
         good("{'uniqueItems':true}", "[1,true,'1',[1],{'a':1},null,false,0]");
         bad("{'uniqueItems':true}", "0:2", "[{'a':1,'b':2},{'b':2,'a':1}]");
         good("{'prefixItems':[{'type':'null'},true,false]}", "[]", "[null]", "[null,1]", "{}");

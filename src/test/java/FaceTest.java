@@ -102,6 +102,9 @@ public final class FaceTest {
     private static void validating() {
         Bench bench = new Bench();
         SchemaJudge x = bench.judge;
+        bench.instance("1");
+        Bench.same("no schema", Bench.outcome(x::validate), STATE);
+        bench.instance("");
         bench.schema("true");
         bench.check();
         Bench.same("no instance", Bench.outcome(x::validate), STATE);

@@ -112,6 +112,8 @@ public final class PatternTest {
         none("(?:a{7}){50}");
         one("(a|b){50}".replace("(a|b)", "(a|bcdef)") + Bench.times(49, "a"));
         none("(a|bcdefg){50}");
+        one(Bench.times(300, "a") + "(a){50}" + Bench.times(49, "a"));
+        none(Bench.times(300, "a") + "(a){50}" + Bench.times(50, "a"));
         // {0} is once and 1
         one(Bench.times(200, "a{0}"));
         none(Bench.times(200, "a{0}") + "a");
@@ -146,6 +148,16 @@ public final class PatternTest {
         matches("(^|x)a", "ba", false);
         matches("(^|x)a", "bxa", true);
         matches("^a|b$", "xb", true);
+        matches("^a|b$", "ax", true);
+        matches("^a|b$", "bx", false);
+        matches("^(ab|cd|ef|)$", "ab", true);
+        matches("^(ab|cd|ef|)$", "cd", true);
+        matches("^(ab|cd|ef|)$", "ef", true);
+        matches("^(ab|cd|ef|)$", "", true);
+        matches("^(ab|cd|ef|)$", "ad", false);
+        matches("ab|cd|ef", "xcdx", true);
+        matches("ab|cd|ef", "xabx", true);
+        matches("^((a|b)|(c|d)|e)+f$", "abcdef", true);
         matches("^(a|b)$", "ab", false);
         matches("^(a|)$", "", true);
         matches("^a*$", "", true);
@@ -204,6 +216,7 @@ public final class PatternTest {
         matches("^[a^]$", "^", true);
         matches("^[\\^]$", "^", true);
         matches("^[^^]$", "^", false);
+        matches("^[^a]$", "^", true);
         matches("^[[]$", "[", true);
         matches("^[\\]]$", "]", true);
         matches("^[.]$", "a", false);
@@ -225,6 +238,12 @@ public final class PatternTest {
         matches("^\\x41\\u00e9\\u{1F600}$", "A\u00e9\ud83d\ude00", true);
         matches("\\ud83d\\ude00", "\ud83d\ude00", false);
         matches("^\\d\\D\\w\\W\\s\\S$", "1aA- x", true);
+        matches("^\\d{2}$", "09", true);
+        matches("^\\w{7}$", "azAZ_09", true);
+        for (char c : "/:@[^`{".toCharArray()) {
+            matches("[\\d\\w]", String.valueOf(c), false);
+            matches("^\\W$", String.valueOf(c), true);
+        }
         matches("\\d", "\u0663", false);
         matches("\\w", "\u00e9", false);
         matches("\\w", "_", true);

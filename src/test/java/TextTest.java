@@ -116,6 +116,11 @@ public final class TextTest {
         reads("\"a\\ud83d\\u0041\"", "wrong at 2");
         reads("\"a\\ud83d\\ud83d\\ude00\"", "wrong at 2");
         reads("\"a\\ude00\"", "wrong at 2");
+        reads("\"a\\udc00\\udc00\"", "wrong at 2");
+        reads("\"a\\udfff\"", "wrong at 2");
+        reads("\"a\\udbff\\udbff\"", "wrong at 2");
+        reads("\"a\\ud800\\ue000\"", "wrong at 2");
+        reads("\"\\ud7ff\\ue000\"", "1");
         reads("\"a\\ud8", "wrong at 6");
     }
 
@@ -127,6 +132,9 @@ public final class TextTest {
         octets("\"\u00f5\u0080\u0080\u0080\"", "wrong at 1");
         octets("\"\u00c0\u0080\"", "wrong at 1");
         octets("\"\u00c1\u00bf\"", "wrong at 1");
+        octets("\"\u00c1\u0080\u0080\u0080\"", "wrong at 1");
+        octets("\"\u00c2\u0080\u00df\u00bf\"", "1");
+        octets("\"\u00ef\u00bf\u00bf\"", "1");
         octets("\"\u00e0\u0080\u0080\"", "wrong at 1");
         octets("\"\u00e0\u00a0\u0080\"", "1");
         octets("\"\u00f0\u0080\u0080\u0080\"", "wrong at 1");
@@ -165,6 +173,7 @@ public final class TextTest {
         reads("[" + Bench.times(60, "1,") + " ]", "wrong at 122");
         reads(members(60), "121");
         reads(members(61), "wrong at 361");
+        reads(members(60).replace("}", "") + ", \"a", "wrong at 362");
     }
 
     private static void manyValues() {
