@@ -31,6 +31,8 @@ public final class SchemaJudge {
     private static final int MAX_PATTERN_SIZE = 400;
     // A PATTERN of SIZE s takes at most 3 * s - 1 instructions, and one to end with.
     private static final int MAX_CODE = 1300;
+    // Where sizes of what may still be repeated no times stop growing.
+    private static final int MANY = 1 << 20;
 
     // What the VALUE of a KEYWORD has to be.
     private static final int NO_FORM = 0;
@@ -1027,31 +1029,31 @@ public final class SchemaJudge {
             setsUsed = 0;
         }
 
+        /** What is behind MAX_CODE is counted, not kept: {0} takes it away again, or it is in no PATTERN. */
         void emit(int operation, int argument) {
             if (length < MAX_CODE) {
                 operations[length] = operation;
                 arguments[length] = argument;
-                length++;
             }
+            length = Math.min(length + 1, MANY);
         }
 
         void insert(int at, int operation, int argument) {
-            if (at < 0 || at > length || length >= MAX_CODE) {
-                return;
+            if (at >= 0 && at <= length && length < MAX_CODE) {
+                System.arraycopy(operations, at, operations, at + 1, length - at);
+                System.arraycopy(arguments, at, arguments, at + 1, length - at);
+                operations[at] = operation;
+                arguments[at] = argument;
             }
-            System.arraycopy(operations, at, operations, at + 1, length - at);
-            System.arraycopy(arguments, at, arguments, at + 1, length - at);
-            operations[at] = operation;
-            arguments[at] = argument;
-            length++;
+            length = Math.min(length + 1, MANY);
         }
 
         int argument(int at) {
-            return at >= 0 && at < length ? arguments[at] : NONE;
+            return at >= 0 && at < MAX_CODE ? arguments[at] : NONE;
         }
 
         void setArgument(int at, int argument) {
-            if (at >= 0 && at < length) {
+            if (at >= 0 && at < MAX_CODE) {
                 arguments[at] = argument;
             }
         }
@@ -1116,17 +1118,18 @@ public final class SchemaJudge {
 
         /** Jumps are told by how far they go, so a copy of a whole block works as the block does. */
         private void copy(int start, int block) {
-            if (start < 0 || block < 0 || start + block > length || length + block > MAX_CODE) {
-                return;
+            if (start >= 0 && block >= 0 && start + block <= length && length + block <= MAX_CODE) {
+                System.arraycopy(operations, start, operations, length, block);
+                System.arraycopy(arguments, start, arguments, length, block);
             }
-            System.arraycopy(operations, start, operations, length, block);
-            System.arraycopy(arguments, start, arguments, length, block);
-            length += block;
+            length = Math.min(length + block, MANY);
         }
 
         /** Whether some part of the string is matched. */
         boolean finds(Text text, int v) {
-            Arrays.fill(rounds, 0);
+            for (int i = 0; i < length && i < MAX_CODE; i++) {
+                rounds[i] = 0;
+            }
             int movedCount = 0;
             int last = text.size(v);
             for (int p = 0; p <= last; p++) {
@@ -1153,7 +1156,7 @@ public final class SchemaJudge {
         }
 
         private void push(int state, int round) {
-            if (state >= 0 && state < length && rounds[state] != round && top < stack.length) {
+            if (state >= 0 && state < MAX_CODE && rounds[state] != round && top < MAX_CODE) {
                 rounds[state] = round;
                 stack[top] = state;
                 top++;
@@ -1194,7 +1197,7 @@ public final class SchemaJudge {
         }
 
         private boolean accepts(int state, int c) {
-            if (state < 0 || state >= length) {
+            if (state < 0 || state >= MAX_CODE) {
                 return false;
             }
             int argument = arguments[state];
@@ -1393,12 +1396,14 @@ public final class SchemaJudge {
                 }
                 if (fine && repeatable && isQuantifier(peek(0))) {
                     fine = readQuantifier();
-                    total = before + (total - before) * Math.max(1, most == NONE ? least + 1 : most) + 1;
-                    if (fine && total <= MAX_PATTERN_SIZE) {
+                    if (fine) {
+                        int repeated = (total - before) * (most == NONE ? least + 1 : most);
+                        total = Math.min(before + Math.max(repeated, 1) + 1, MANY);
                         program.repeat(start, least, most);
                     }
                 }
-                if (!fine || total > MAX_PATTERN_SIZE) {
+                // Inside a group {0} may still take all of it away.
+                if (!fine || depth == 0 && total > MAX_PATTERN_SIZE) {
                     return false;
                 }
             }

@@ -114,9 +114,26 @@ public final class PatternTest {
         none("(a|bcdefg){50}");
         one(Bench.times(300, "a") + "(a){50}" + Bench.times(49, "a"));
         none(Bench.times(300, "a") + "(a){50}" + Bench.times(50, "a"));
-        // {0} is once and 1
+        // No times, and a group of nothing, are 1 at least, and 1
         one(Bench.times(200, "a{0}"));
         none(Bench.times(200, "a{0}") + "a");
+        one(Bench.times(200, "(abc){0,0}"));
+        none(Bench.times(200, "(abc){0,0}") + "a");
+        one(Bench.times(200, "()*"));
+        none(Bench.times(200, "()*") + "a");
+        one(Bench.times(199, "(){50}") + "aa");
+        none(Bench.times(199, "(){50}") + "aaa");
+        // The most instructions that a SIZE of 400 can take.
+        matches("(((|){0,7}){0,7}){0,7}", "", true);
+        matches("((a|){0,50}){0,2}(|){0,40}(|){0,40}b$", Bench.times(300, "a") + "b", true);
+        one("(" + Bench.times(3000, "a") + "){0}");
+        one("((" + Bench.times(900, "a|") + "b+)" + Bench.times(9, "(c{50}){50}") + "|x){0}" + Bench.times(398, "a"));
+        none("((" + Bench.times(900, "a|") + "b+)" + Bench.times(9, "(c{50}){50}") + "|x){0}" + Bench.times(399, "a"));
+        none("(" + Bench.times(3000, "a") + "){0,1}");
+        matches("^a|b(" + Bench.times(900, "a|") + "(c{50}){50}|x){0}c$", "xbc", true);
+        matches("^a|b(" + Bench.times(900, "a|") + "(c{50}){50}|x){0}c$", "xbac", false);
+        matches("^(a|b((" + Bench.times(900, "a|") + "){0}|d|e(c{50}){0,2})f){2}$", "abdf", true);
+        matches("^(a|b((" + Bench.times(900, "a|") + "){0}|d|e(c{50}){0,2})f){2}$", "be" + Bench.times(50, "c") + "fa", true);
         one(Bench.times(600, "()"));
         none(Bench.times(5, "(") + "a" + Bench.times(5, "){50}"));
     }
