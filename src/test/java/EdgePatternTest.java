@@ -340,6 +340,7 @@ public final class EdgePatternTest {
             Bench.times(2, Bench.times(30, "(") + Bench.times(30, ")")), Bench.times(29, "(") + Bench.times(50, "(a)") + Bench.times(29, ")"));
         none(Bench.times(31, "(") + Bench.times(31, ")"), Bench.times(31, "(?:") + Bench.times(31, ")"), "()" + Bench.times(31, "(") + Bench.times(31, ")"),
             Bench.times(30, "(") + "a()" + Bench.times(30, ")"));
+        none(Bench.times(31, "(") + Bench.times(30, ")"), Bench.times(30, "(") + Bench.times(31, ")"), Bench.times(30, "(") + Bench.times(29, ")"));
         // in a set, and escaped, it is none
         one(Bench.times(30, "(") + "[(]\\(" + Bench.times(30, ")"));
         yes("^" + Bench.times(30, "(") + "a" + Bench.times(30, ")") + "$", "a");

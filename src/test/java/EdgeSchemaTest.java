@@ -231,6 +231,13 @@ public final class EdgeSchemaTest {
         checks("6 at 236", ring + ",'a59':{'$ref':'#/$defs/a58'}}}");
         checks("6 at 240", ring + ",'a59':{'$ref':'#/$defs/a59'}}}");
         good(ring + ",'a59':{}}}");
+        // two ways from each to the next one: as many ways in all as no row has room for
+        StringBuilder wide = new StringBuilder("{'$defs':{");
+        for (int i = 0; i < 30; i++) {
+            wide.append("'a").append(i).append("':{'allOf':[{'$ref':'#/$defs/b").append("'},{'$ref':'#/$defs/a").append(i + 1).append("'},{'$ref':'#/$defs/a").append(i + 1).append("'}]},");
+        }
+        checks("6 at 4", wide + "'b':true,'a30':{'$ref':'#/$defs/a0'}}}");
+        good(wide + "'b':true,'a30':{'$ref':'#/$defs/b'}}}");
     }
 
     private static final String PLACES = "{'items':{'$ref':'REF'},'$defs':{'a':{},'':true,'b':{'not':{'$anchor':'in'}},'/':{},'~':{},'~0':{},'0':{},'%':{},'%2':{},"

@@ -1,4 +1,5 @@
 import java.math.BigDecimal;
+import java.math.BigInteger;
 
 /** Terms 3: numbers are compared and divided exactly, beside what BigDecimal says. */
 public final class NumberTest {
@@ -18,10 +19,38 @@ public final class NumberTest {
         Bench.judges("{\"multipleOf\":" + Bench.times(60, "9") + "}", Bench.times(60, "9") + "e3", "good");
         Bench.judges("{\"multipleOf\":" + Bench.times(60, "9") + "}", Bench.times(59, "9") + "8", "bad 0:2");
         Bench.judges("{\"multipleOf\":0.5}", "\"x\"", "good");
+        // Nine digits of the rest are just 1 below those of the divisor, or alike with 1 to lend.
+        Bench.judges("{\"multipleOf\":1000000001}", "2000000000999999999", "good");
+        Bench.judges("{\"multipleOf\":1000000001}", "2000000000999999998", "bad 0:2");
+        Bench.judges("{\"multipleOf\":1000000000000000001}", "2000000000000000000999999999999999999", "good");
+        Bench.judges("{\"multipleOf\":1000000000000000001}", "2000000000000000000999999999999999998", "bad 0:2");
         for (int i = 0; i < 1500; i++) {
             beside(number(), number());
         }
+        for (int i = 0; i < 3000; i++) {
+            multiple(odd(1 + next(29)), odd(1 + next(30)));
+        }
         Bench.finish();
+    }
+
+    /** A whole number of so many digits, most of which are 0, 1 or 9: it lends and carries wherever it can. */
+    private static BigInteger odd(int digits) {
+        StringBuilder text = new StringBuilder("1");
+        for (int i = 1; i < digits; i++) {
+            int kind = next(7);
+            text.append(kind < 2 ? '0' : kind < 4 ? '9' : kind < 6 ? '1' : (char) ('0' + next(10)));
+        }
+        return new BigInteger(text.toString());
+    }
+
+    /** A product is a whole number of times what it was made of; the numbers beside it are, as BigInteger says. */
+    private static void multiple(BigInteger one, BigInteger other) {
+        BigInteger product = one.multiply(other);
+        for (int step = -1; step <= 1; step++) {
+            BigInteger number = product.add(BigInteger.valueOf(step));
+            boolean whole = number.mod(one).signum() == 0;
+            Bench.judges("{\"multipleOf\":" + one + "}", number.toString(), whole ? "good" : "bad 0:2");
+        }
     }
 
     private static String pow(int base, int n) {

@@ -34,7 +34,61 @@ public final class ReuseTest {
                 Bench.same("used object, " + schema + " on " + instance, all(used, schema, instance), all(new Bench(), schema, instance));
             }
         }
+        patternsOneBehindTheOther();
+        manySets();
+        referencesOneBehindTheOther();
+        divisionsOneBehindTheOther();
         Bench.finish();
+    }
+
+    private static final String[] PATTERNS = {
+        "\\\\d", "\\\\", "a{2}", "a{2", "a{", "[abc]", "[x]", "[^x]", "[b]", "[", "(a)", "(a", "(", "(?:a)", "(?:", "(?", "\\\\u{62}", "\\\\u{62", "\\\\x62", "\\\\x6", "\\\\u0062", "\\\\u006",
+        "b|", "b", "(c|b)*d", "^b*$", "^(b|c)?$", "x*", "^x", "[a-c]", "[a-", "[c-a]", "[^\\\\d]", "[\\\\d]", "[\\\\w]", "[]", "[^]", "(b){50}", "", "b{0}$", "^$", "a+?", "b$", "(", ")"
+    };
+
+    /** Each PATTERN behind each other one in the same object. */
+    private static void patternsOneBehindTheOther() {
+        String[] alone = new String[PATTERNS.length];
+        StringBuilder instance = new StringBuilder("[\"b\"");
+        for (int i = 0; i < PATTERNS.length; i++) {
+            Bench one = new Bench();
+            one.instance("[\"b\",\"" + PATTERNS[i] + "\"]");
+            alone[i] = Bench.outcome(() -> one.judge.matches(1, 2));
+            instance.append(",\"").append(PATTERNS[i]).append('"');
+        }
+        for (int i = 0; i < PATTERNS.length; i++) {
+            Bench used = new Bench();
+            used.instance(instance + "]");
+            int first = 2 + i;
+            for (int k = 0; k < PATTERNS.length; k++) {
+                int second = 2 + k;
+                Bench.outcome(() -> used.judge.matches(1, first));
+                Bench.same(PATTERNS[k] + " behind " + PATTERNS[i], Bench.outcome(() -> used.judge.matches(1, second)), alone[k]);
+            }
+        }
+    }
+
+    /** What one PATTERN took, its SIZE and its sets, the next one has again. */
+    private static void manySets() {
+        Bench used = new Bench();
+        used.instance("[\"y\",\"" + Bench.times(399, "[a-x]") + "\",\"" + Bench.times(100, "[abcdefg]") + "|[y]\"]");
+        for (int i = 0; i < 200; i++) {
+            Bench.same("no", used.judge.matches(1, 2), false);
+            Bench.same("yes", used.judge.matches(1, 3), true);
+        }
+    }
+
+    private static void referencesOneBehindTheOther() {
+        Bench.checks("{\"items\":{\"$ref\":\"#\"},\"not\":{\"$ref\":\"\"}}", "5 at 8");
+        Bench.checks("{\"items\":{\"$ref\":\"#/not\"},\"not\":{\"$ref\":\"\"}}", "5 at 8");
+        Bench.checks("{\"items\":{\"$ref\":\"#/$defs/a~0\"},\"not\":{\"$ref\":\"#/$defs/a~\"},\"$defs\":{\"a~\":{}}}", "5 at 8");
+        Bench.checks("{\"items\":{\"$ref\":\"#/$defs/ab\"},\"not\":{\"$ref\":\"#/$defs/a\"},\"$defs\":{\"ab\":{}}}", "5 at 8");
+        Bench.checks("{\"items\":{\"$ref\":\"#/$defs/a%41\"},\"not\":{\"$ref\":\"#/$defs/a%4\"},\"$defs\":{\"aA\":{}}}", "5 at 8");
+    }
+
+    private static void divisionsOneBehindTheOther() {
+        Bench.judges("{\"items\":{\"multipleOf\":3}}", "[1,3,2,3,5,12,12e60,-7,0,21]", "bad 0:2 1:4 3:4 5:4 8:4");
+        Bench.judges("{\"items\":{\"multipleOf\":10000000000000000000001}}", "[1e50,10000000000000000000001,99,30000000000000000000003]", "bad 0:2 1:4 3:4");
     }
 
     private static String all(Bench bench, String schema, String instance) {
