@@ -6,7 +6,8 @@ public final class EdgeCallsTest {
     private static final String ARGUMENT = "IllegalArgumentException";
     private static final String STATE = "IllegalStateException";
     private static final String LIMIT = "UnsupportedOperationException";
-    private static final int[] FAR = {Integer.MIN_VALUE, Integer.MIN_VALUE + 1, -65536, -256, -2, -1, 1000, 1001, 8192, 8193, 65536, Integer.MAX_VALUE - 1, Integer.MAX_VALUE};
+    private static final int[] FAR = {Integer.MIN_VALUE, Integer.MIN_VALUE + 1, -65536, -256, -2, -1, 1000, 1001, 8192, 8193,
+        65536, Integer.MAX_VALUE - 1, Integer.MAX_VALUE};
 
     public static void main(String[] args) {
         newObject();
@@ -166,7 +167,8 @@ public final class EdgeCallsTest {
         Bench bench = used();
         String before = state(bench);
         bench.feed("tru".getBytes(StandardCharsets.UTF_8));
-        Bench.same("too many", Bench.outcome(() -> bench.judge.end(true, 21)) + Bench.outcome(() -> bench.judge.end(false, -1)), INDEX + INDEX);
+        Bench.same("too many", Bench.outcome(() -> bench.judge.end(true, 21)) + Bench.outcome(() -> bench.judge.end(false, -1)),
+            INDEX + INDEX);
         Bench.same("all stays", state(bench), before);
         Bench.same("the SCHEMA is still checked", bench.validate(), "bad 0:2 2:4 5:4");
         Bench.same("what was fed stays", Bench.outcome(() -> bench.judge.end(false, 3)), ARGUMENT);
@@ -178,14 +180,16 @@ public final class EdgeCallsTest {
         SchemaJudge x = bench.judge;
         Bench.same("INSTANCE", bench.instance("[1,"), "wrong at 3");
         Bench.same("counts", x.count(0) + " " + x.count(1), "5 0");
-        Bench.same("no INSTANCE", Bench.outcome(x::validate) + Bench.outcome(() -> x.value(false, 0, 0)) + Bench.outcome(() -> x.alike(0, 0)) + Bench.outcome(() -> x.matches(0, 0)),
+        Bench.same("no INSTANCE", Bench.outcome(x::validate) + Bench.outcome(() -> x.value(false, 0, 0))
+            + Bench.outcome(() -> x.alike(0, 0)) + Bench.outcome(() -> x.matches(0, 0)),
             STATE + INDEX + INDEX + INDEX);
         Bench.same("the SCHEMA stays checked", x.value(true, 0, 0) + " " + x.fault(), "6 -1");
         bench.instance("[null]");
         Bench.same("and is used", bench.validate(), "good");
         Bench.same("SCHEMA", bench.schema("{\"type\":}"), "wrong at 8");
         Bench.same("counts", x.count(0) + " " + x.count(1), "0 2");
-        Bench.same("no SCHEMA", Bench.outcome(x::check) + Bench.outcome(x::validate) + Bench.outcome(() -> x.value(true, 0, 0)), STATE + STATE + INDEX);
+        Bench.same("no SCHEMA", Bench.outcome(x::check) + Bench.outcome(x::validate) + Bench.outcome(() -> x.value(true, 0, 0)),
+            STATE + STATE + INDEX);
         Bench.same("the INSTANCE stays", x.value(false, 0, 0) + " " + x.alike(0, 0), "5 true");
         bench.schema("{}");
         bench.check();
@@ -341,7 +345,8 @@ public final class EdgeCallsTest {
     private static void valueOfEachKind() {
         Bench bench = new Bench();
         bench.instance("{\"\":[null,false,true,0,\"\",[],{}],\"a\":-12.50e3}");
-        String[] due = {"6 0 2 -1 0", "4 1 0 0 0", "5 4 7 0 0", "0 5 0 2 0", "1 10 0 2 0", "2 16 0 2 0", "3 21 0 2 0", "4 23 0 2 0", "5 26 0 2 0", "6 29 0 2 0", "4 33 1 0 0",
+        String[] due = {"6 0 2 -1 0", "4 1 0 0 0", "5 4 7 0 0", "0 5 0 2 0", "1 10 0 2 0", "2 16 0 2 0", "3 21 0 2 0",
+            "4 23 0 2 0", "5 26 0 2 0", "6 29 0 2 0", "4 33 1 0 0",
             "3 37 3 0 2"};
         for (int v = 0; v < due.length; v++) {
             Bench.same("VALUE " + v, bench.value(false, v), due[v]);
@@ -352,9 +357,12 @@ public final class EdgeCallsTest {
 
     private static void valueOfNumbers() {
         String nines = Bench.times(60, "9");
-        String[][] due = {{"0", "0 0"}, {"-0", "0 0"}, {"0e999", "0 0"}, {"0.00e-999", "0 0"}, {"1", "1 0"}, {"-1", "1 0"}, {"10", "1 1"}, {"101", "3 0"}, {"1.0", "1 0"}, {"0.1", "1 -1"},
-            {"1e999", "1 999"}, {"1e-999", "1 -999"}, {nines, "60 0"}, {"0." + Bench.times(59, "9"), "59 -59"}, {"0." + Bench.times(58, "0") + "1e-999", "1 -1058"},
-            {"1" + Bench.times(59, "0") + "e999", "1 1058"}, {nines + "e-999", "60 -999"}, {"1." + Bench.times(59, "0"), "1 0"}, {"100e-2", "1 0"}, {"100e-3", "1 -1"},
+        String[][] due = {{"0", "0 0"}, {"-0", "0 0"}, {"0e999", "0 0"}, {"0.00e-999", "0 0"}, {"1", "1 0"}, {"-1", "1 0"}, {"10",
+            "1 1"}, {"101", "3 0"}, {"1.0", "1 0"}, {"0.1", "1 -1"},
+            {"1e999", "1 999"}, {"1e-999", "1 -999"}, {nines, "60 0"}, {"0." + Bench.times(59, "9"), "59 -59"}, {"0."
+            + Bench.times(58, "0") + "1e-999", "1 -1058"},
+            {"1" + Bench.times(59, "0") + "e999", "1 1058"}, {nines + "e-999", "60 -999"}, {"1." + Bench.times(59, "0"), "1 0"},
+            {"100e-2", "1 0"}, {"100e-3", "1 -1"},
             {"1." + Bench.times(58, "0") + "1", "60 -59"}};
         for (String[] row : due) {
             Bench bench = new Bench();
@@ -380,10 +388,12 @@ public final class EdgeCallsTest {
         Bench.same("a SCHEMA is no INSTANCE", Bench.outcome(() -> x.alike(0, 0)), INDEX);
         bench.instance("[1,1.0]");
         for (int v : FAR) {
-            Bench.same("alike " + v, Bench.outcome(() -> x.alike(v, 0)) + Bench.outcome(() -> x.alike(0, v)) + Bench.outcome(() -> x.alike(v, v)), INDEX + INDEX + INDEX);
+            Bench.same("alike " + v, Bench.outcome(() -> x.alike(v, 0)) + Bench.outcome(() -> x.alike(0, v))
+                + Bench.outcome(() -> x.alike(v, v)), INDEX + INDEX + INDEX);
         }
         Bench.same("one too far", Bench.outcome(() -> x.alike(2, 3)) + Bench.outcome(() -> x.alike(3, 2)), INDEX + INDEX);
-        Bench.same("the last two", Bench.outcome(() -> x.alike(1, 2)) + Bench.outcome(() -> x.alike(2, 1)) + Bench.outcome(() -> x.alike(0, 2)), "truetruefalse");
+        Bench.same("the last two", Bench.outcome(() -> x.alike(1, 2)) + Bench.outcome(() -> x.alike(2, 1))
+            + Bench.outcome(() -> x.alike(0, 2)), "truetruefalse");
     }
 
     private static void matchesArguments() {
@@ -393,12 +403,15 @@ public final class EdgeCallsTest {
         Bench.same("a SCHEMA is no INSTANCE", Bench.outcome(() -> x.matches(1, 1)), INDEX);
         bench.instance("[1,\"(\",\"a\"]");
         for (int v : FAR) {
-            Bench.same("matches " + v, Bench.outcome(() -> x.matches(v, 3)) + Bench.outcome(() -> x.matches(3, v)) + Bench.outcome(() -> x.matches(v, v)), INDEX + INDEX + INDEX);
+            Bench.same("matches " + v, Bench.outcome(() -> x.matches(v, 3)) + Bench.outcome(() -> x.matches(3, v))
+                + Bench.outcome(() -> x.matches(v, v)), INDEX + INDEX + INDEX);
             // there is no such VALUE: that is thrown first, whatever the other one is
-            Bench.same("matches " + v, Bench.outcome(() -> x.matches(v, 2)) + Bench.outcome(() -> x.matches(0, v)), INDEX + INDEX);
+            Bench.same("matches " + v, Bench.outcome(() -> x.matches(v, 2)) + Bench.outcome(() -> x.matches(0, v)), INDEX
+                + INDEX);
         }
         Bench.same("one too far", Bench.outcome(() -> x.matches(4, 1)) + Bench.outcome(() -> x.matches(1, 4)), INDEX + INDEX);
-        Bench.same("no strings", Bench.outcome(() -> x.matches(0, 3)) + Bench.outcome(() -> x.matches(3, 0)) + Bench.outcome(() -> x.matches(1, 1)), ARGUMENT + ARGUMENT + ARGUMENT);
+        Bench.same("no strings", Bench.outcome(() -> x.matches(0, 3)) + Bench.outcome(() -> x.matches(3, 0))
+            + Bench.outcome(() -> x.matches(1, 1)), ARGUMENT + ARGUMENT + ARGUMENT);
         Bench.same("no PATTERN", Bench.outcome(() -> x.matches(3, 2)), ARGUMENT);
         Bench.same("and then one", Bench.outcome(() -> x.matches(3, 3)) + Bench.outcome(() -> x.matches(2, 3)), "truefalse");
     }
@@ -418,7 +431,8 @@ public final class EdgeCallsTest {
         Bench.same("all four", x.count(0) + " " + x.count(1) + " " + x.count(2) + " " + x.count(3), "5 6 4 2");
         bench.schema("[");
         bench.instance("[");
-        Bench.same("texts go, what validate() counted stays", x.count(0) + " " + x.count(1) + " " + x.count(2) + " " + x.count(3), "0 0 4 2");
+        Bench.same("texts go, what validate() counted stays", x.count(0) + " " + x.count(1) + " " + x.count(2) + " " + x.count(3),
+            "0 0 4 2");
         Bench.outcome(x::validate);
         Bench.same("a refused one counts nothing", x.count(2) + " " + x.count(3), "4 2");
         bench.schema("false");
@@ -445,7 +459,8 @@ public final class EdgeCallsTest {
     }
 
     private static void refusedCallsChangeNothing() {
-        String[] texts = {"[1,2", "{\"items\":{\"pattern\":\"^[a-c]+$\"},\"maxItems\":1}", "[\"a\",\"d\",[\"(\"],\"(\"]", "5", "[1]", "{\"$ref\":\"#/x\"}", "true", "{}x"};
+        String[] texts = {"[1,2", "{\"items\":{\"pattern\":\"^[a-c]+$\"},\"maxItems\":1}", "[\"a\",\"d\",[\"(\"],\"(\"]", "5",
+            "[1]", "{\"$ref\":\"#/x\"}", "true", "{}x"};
         for (int first = 0; first < texts.length; first++) {
             for (int second = 0; second < texts.length; second++) {
                 Bench plain = new Bench();
@@ -475,7 +490,8 @@ public final class EdgeCallsTest {
         refuseIf(refused, x);
         told.append(state(bench)).append('|').append(Bench.outcome(x::validate)).append('|');
         refuseIf(refused, x);
-        told.append(state(bench)).append('|').append(x.feed(0x20202020, 0x20202020, 0x20202020, 0x20202020, 0x20202020)).append('|');
+        told.append(state(bench)).append('|').append(x.feed(0x20202020, 0x20202020, 0x20202020, 0x20202020,
+            0x20202020)).append('|');
         refuseIf(refused, x);
         told.append(Bench.outcome(() -> x.end(!schema, 20))).append(x.wrong()).append('\n');
         return told.toString();

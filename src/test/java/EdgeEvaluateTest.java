@@ -127,11 +127,14 @@ public final class EdgeEvaluateTest {
         bad("{'else':false,'if':false}", "0:2", "1");
         // 299 PAIRS, then that of then: the one behind it is a further one
         String many = "{'items':{'allOf':" + list(60, "false") + "}}";
-        Bench bench = ready("{'maxItems':4,'$ref':'#/$defs/m','if':true,'minItems':9,'then':{'maxItems':4},'$defs':{'m':" + many + "}}", list(5, "0"));
+        Bench bench = ready("{'maxItems':4,'$ref':'#/$defs/m','if':true,'minItems':9,'then':{'maxItems':4},'$defs':{'m':" + many
+            + "}}", list(5, "0"));
         bench.validate();
         Bench.same("full before", bench.judge.pairs(), 300);
-        Bench order = ready("{'allOf':[{'prefixItems':[{'allOf':" + list(60, "false") + "},{'allOf':" + list(60, "false") + "},{'allOf':" + list(60, "false")
-            + "},{'allOf':" + list(60, "false") + "},{'allOf':" + list(49, "false") + "}]}],'then':false,'minItems':9,'if':true}", list(5, "0"));
+        Bench order = ready("{'allOf':[{'prefixItems':[{'allOf':" + list(60, "false") + "},{'allOf':" + list(60, "false")
+            + "},{'allOf':" + list(60, "false")
+            + "},{'allOf':" + list(60, "false") + "},{'allOf':" + list(49, "false") + "}]}],'then':false,'minItems':9,'if':true}",
+                list(5, "0"));
         // 4 * 61 + 50 = 294, prefixItems, allOf, minItems, then
         order.validate();
         Bench.same("298", order.judge.pairs(), 298);
@@ -148,9 +151,11 @@ public final class EdgeEvaluateTest {
     }
 
     private static void integers() {
-        good("{'type':'integer'}", "0", "-0", "1", "-1", "1.0", "10e-1", "1.5e1", "0.0", "0e-999", "1e999", "-1e999", Bench.times(60, "9"), "1." + Bench.times(59, "0"),
+        good("{'type':'integer'}", "0", "-0", "1", "-1", "1.0", "10e-1", "1.5e1", "0.0", "0e-999", "1e999", "-1e999",
+            Bench.times(60, "9"), "1." + Bench.times(59, "0"),
             "0." + Bench.times(58, "0") + "1e59");
-        bad("{'type':'integer'}", "0:2", "0.1", "-0.5", "1e-1", "15e-2", "1e-999", "1." + Bench.times(58, "0") + "1", "0." + Bench.times(58, "0") + "1e58", "'1'", "true", "null", "[1]", "{}");
+        bad("{'type':'integer'}", "0:2", "0.1", "-0.5", "1e-1", "15e-2", "1e-999", "1." + Bench.times(58, "0") + "1", "0."
+            + Bench.times(58, "0") + "1e58", "'1'", "true", "null", "[1]", "{}");
         good("{'type':'number'}", "0", "1.5", "1e-999");
         good("{'type':['integer','string']}", "1", "'a'");
         bad("{'type':['integer','string']}", "0:2", "1.5", "null");
@@ -289,8 +294,10 @@ public final class EdgeEvaluateTest {
     }
 
     private static void noTwoAlike() {
-        good("{'uniqueItems':true}", "[]", "[1]", "[1,2]", "[1,'1',true,null,[],{}]", "[0,false,'',null,[],{}]", "[[1],[2]]", "{'a':1,'b':1}", "'aa'");
-        bad("{'uniqueItems':true}", "0:2", "[1,1]", "[1,1.0]", "[0,-0]", "[[],[]]", "[{},{}]", "['','']", "[null,null]", "[{'a':1,'b':2},{'b':2,'a':1}]", "[1,2,1]", "[2,1,1]");
+        good("{'uniqueItems':true}", "[]", "[1]", "[1,2]", "[1,'1',true,null,[],{}]", "[0,false,'',null,[],{}]", "[[1],[2]]",
+            "{'a':1,'b':1}", "'aa'");
+        bad("{'uniqueItems':true}", "0:2", "[1,1]", "[1,1.0]", "[0,-0]", "[[],[]]", "[{},{}]", "['','']", "[null,null]",
+            "[{'a':1,'b':2},{'b':2,'a':1}]", "[1,2,1]", "[2,1,1]");
         good("{'uniqueItems':false}", "[1,1]");
         StringBuilder sixty = new StringBuilder("[0");
         for (int i = 1; i < 59; i++) {
@@ -388,14 +395,17 @@ public final class EdgeEvaluateTest {
         good("{'patternProperties':{'':true},'unevaluatedProperties':false}", members(60, "a"));
         bad("{'patternProperties':{'^[^~]+$':true},'unevaluatedProperties':false}", "0:6 120:6", members(60, "~"));
         good("{'allOf':[{'unevaluatedProperties':true}],'unevaluatedProperties':false}", "{'a':1}");
-        bad("{'properties':{'a':{'unevaluatedProperties':true}},'unevaluatedProperties':false}", "0:8 6:8", "{'a':{'b':1},'b':1}");
+        bad("{'properties':{'a':{'unevaluatedProperties':true}},'unevaluatedProperties':false}", "0:8 6:8",
+            "{'a':{'b':1},'b':1}");
     }
 
     private static void evaluatedOfGoodOnes() {
-        String[] inPlace = {"'allOf':[@]", "'anyOf':[@]", "'oneOf':[@]", "'if':@", "'if':true,'then':@", "'if':false,'else':@", "'dependentSchemas':{'a':@}", "'$ref':'#/$defs/s','$defs':{'s':@}"};
+        String[] inPlace = {"'allOf':[@]", "'anyOf':[@]", "'oneOf':[@]", "'if':@", "'if':true,'then':@", "'if':false,'else':@",
+            "'dependentSchemas':{'a':@}", "'$ref':'#/$defs/s','$defs':{'s':@}"};
         for (String keyword : inPlace) {
             good("{" + keyword.replace("@", "{'properties':{'a':true}}") + ",'unevaluatedProperties':false}", "{'a':1}");
-            Bench bench = ready("{" + keyword.replace("@", "{'properties':{'a':true},'required':['b']}") + ",'unevaluatedProperties':false}", "{'a':1}");
+            Bench bench = ready("{" + keyword.replace("@", "{'properties':{'a':true},'required':['b']}")
+                + ",'unevaluatedProperties':false}", "{'a':1}");
             bench.validate();
             int last = bench.judge.pairs() - 1;
             Bench.same("not good, not EVALUATED: " + keyword, last >= 0 ? bench.judge.pair(last, false) : -1, 2);
@@ -481,7 +491,8 @@ public final class EdgeEvaluateTest {
         Bench before = ready("{'maxItems':1,'items':{'allOf':" + list(12, "false") + "}}", list(23, "0"));
         before.validate();
         Bench.same("items is the further one", pair(before, 0) + " " + pair(before, 1), "0:2 1:6");
-        Bench twice = ready("{'$ref':'#/$defs/a','allOf':[{'$ref':'#/$defs/a'}],'$defs':{'a':{'items':{'allOf':" + list(12, "false") + "}}}}", list(22, "0"));
+        Bench twice = ready("{'$ref':'#/$defs/a','allOf':[{'$ref':'#/$defs/a'}],'$defs':{'a':{'items':{'allOf':" + list(12,
+            "false") + "}}}}", list(22, "0"));
         twice.validate();
         Bench.same("found twice, kept once: 22 * 13 + 1, and 3", twice.judge.pairs(), 290);
     }
@@ -504,7 +515,8 @@ public final class EdgeEvaluateTest {
     private static void theOrderOfWhatIsKept() {
         // 299 by the first KEYWORD, so that of the next one only the first PAIR is kept
         String first = "'$ref':'#/$defs/f'";
-        String defs = "'$defs':{'f':{'prefixItems':[{'allOf':" + list(59, "false") + "},{'allOf':" + list(59, "false") + "},{'allOf':" + list(59, "false") + "},{'allOf':"
+        String defs = "'$defs':{'f':{'prefixItems':[{'allOf':" + list(59, "false") + "},{'allOf':" + list(59, "false")
+            + "},{'allOf':" + list(59, "false") + "},{'allOf':"
             + list(59, "false") + "},{'allOf':" + list(56, "false") + "}]}}";
         // 4 * 60 + 57 = 297, prefixItems, $ref: 299
         Bench bench = ready("{" + first + "," + defs + "}", "[0,0,0,0,0]");
@@ -519,7 +531,8 @@ public final class EdgeEvaluateTest {
         bench = ready("{" + first + ",'allOf':[{'minItems':8},{'minItems':9}]," + defs + "}", "[0,0,0,0,0]");
         bench.validate();
         Bench.same("its own comes last", pair(bench, 1), "0:7");
-        String object = "{'properties':{'x':{'prefixItems':[{'allOf':" + list(59, "false") + "},{'allOf':" + list(59, "false") + "},{'allOf':" + list(59, "false") + "},{'allOf':"
+        String object = "{'properties':{'x':{'prefixItems':[{'allOf':" + list(59, "false") + "},{'allOf':" + list(59, "false")
+            + "},{'allOf':" + list(59, "false") + "},{'allOf':"
             + list(59, "false") + "},{'allOf':" + list(57, "false") + "}]},'b':false,'a':false}}";
         bench = ready(object, "{'a':1,'b':1,'x':[0,0,0,0,0]}");
         bench.validate();
@@ -551,7 +564,8 @@ public final class EdgeEvaluateTest {
     }
 
     private static void tooDeepAnywhere() {
-        String[] deeper = {"'items':false", "'items':true", "'prefixItems':[true]", "'contains':true", "'unevaluatedItems':true", "'not':true", "'if':true", "'allOf':[true]",
+        String[] deeper = {"'items':false", "'items':true", "'prefixItems':[true]", "'contains':true", "'unevaluatedItems':true",
+            "'not':true", "'if':true", "'allOf':[true]",
             "'anyOf':[true]", "'oneOf':[false]", "'$ref':'#/$defs/t'"};
         for (String keyword : deeper) {
             String schema = "{'items':{'$ref':'#/$defs/a'},'properties':{'x':X},'$defs':{'t':true,'a':{'$ref':'#'}}}";
@@ -561,7 +575,8 @@ public final class EdgeEvaluateTest {
             bench = ready(schema.replace("X", "{'allOf':[{'allOf':[{" + keyword + "}]}]}"), nested(32, "{'x':[1]}"));
             Bench.same("101 deep, " + keyword, bench.validate() + " " + bench.judge.count(3), "limit 100");
         }
-        String[] others = {"'properties':{'a':true}", "'patternProperties':{'':true}", "'additionalProperties':true", "'propertyNames':true", "'unevaluatedProperties':true",
+        String[] others = {"'properties':{'a':true}", "'patternProperties':{'':true}", "'additionalProperties':true",
+            "'propertyNames':true", "'unevaluatedProperties':true",
             "'dependentSchemas':{'a':true}"};
         for (String keyword : others) {
             String schema = "{'items':{'$ref':'#/$defs/a'},'properties':{'x':X},'$defs':{'a':{'$ref':'#'}}}";
@@ -574,7 +589,8 @@ public final class EdgeEvaluateTest {
 
     private static void counted(String more, String due) {
         // 51 elements: 1 + 51 * 392 = 19,993 SCHEMAS, 6 deep
-        String schema = "{'$defs':{'a':{'$anchor':'a','allOf':" + list(10, "{'$ref':'#b'}") + "},'b':{'$anchor':'b','allOf':" + list(37, "true") + "}},'items':{'$ref':'#a'}," + more + "}";
+        String schema = "{'$defs':{'a':{'$anchor':'a','allOf':" + list(10, "{'$ref':'#b'}") + "},'b':{'$anchor':'b','allOf':"
+            + list(37, "true") + "}},'items':{'$ref':'#a'}," + more + "}";
         Bench bench = ready(schema, list(51, "1"));
         Bench.same(more, bench.validate() + " " + bench.judge.count(2) + " " + bench.judge.count(3), due);
     }

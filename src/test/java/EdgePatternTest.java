@@ -105,7 +105,8 @@ public final class EdgePatternTest {
         String[] all = {"*", "+", "?", "{2}", "{2,}", "{2,3}"};
         for (String q : all) {
             one("a" + q, "a" + q + "?", "." + q, "[a]" + q, "\\d" + q, "(a)" + q, "(?:)" + q, "a" + q + "b");
-            none(q, q + "?", "^" + q, "$" + q, "|" + q, "a|" + q, "(" + q + ")", "(?:" + q + ")", "a" + q + "??", "a" + q + "*", "a" + q + "+", "a" + q + "{1}");
+            none(q, q + "?", "^" + q, "$" + q, "|" + q, "a|" + q, "(" + q + ")", "(?:" + q + ")", "a" + q + "??", "a" + q + "*",
+                "a" + q + "+", "a" + q + "{1}");
         }
         no("^a+$", "", "b");
         yes("^a+$", "a", "aa");
@@ -122,7 +123,8 @@ public final class EdgePatternTest {
 
     private static void threeDigits() {
         one("a{0}", "a{00}", "a{000}", "a{050}", "a{000,000}", "a{001,}", "a{9,050}");
-        none("a{}", "a{0000}", "a{0,0000}", "a{0050}", "a{,}", "a{,5}", "a{1,,2}", "a{1.}", "a{1-2}", "a{ 1}", "a{1 }", "a{1, 2}", "a{1", "a{1,", "a{1,2", "a{a}", "a{1a}",
+        none("a{}", "a{0000}", "a{0,0000}", "a{0050}", "a{,}", "a{,5}", "a{1,,2}", "a{1.}", "a{1-2}", "a{ 1}", "a{1 }", "a{1, 2}",
+            "a{1", "a{1,", "a{1,2", "a{a}", "a{1a}",
             "a{1,a}", "a{/}", "a{:}", "a{1/}", "a{1:}", "a{\u0661}", "a{+1}", "a{-1}", "a{\\x31}");
     }
 
@@ -148,7 +150,8 @@ public final class EdgePatternTest {
 
     private static void groupsAndTheirEnds() {
         one("()", "(a)", "((a))", "(?:a)", "(a)(b)", "(:)", "(?::)");
-        none("(", "(a", "((a)", ")", "a)", "(a))", "(?", "(?)", "(?:", "(?a)", "(?=a)", "(?!a)", "(?<a>b)", "(?<=a)", "(??:a)", "(?:?)", "(? :a)", "(?i:a)");
+        none("(", "(a", "((a)", ")", "a)", "(a))", "(?", "(?)", "(?:", "(?a)", "(?=a)", "(?!a)", "(?<a>b)", "(?<=a)", "(??:a)",
+            "(?:?)", "(? :a)", "(?i:a)");
     }
 
     private static void setsAndTheirEnds() {
@@ -191,7 +194,8 @@ public final class EdgePatternTest {
     private static void neitherASetThen() {
         for (char c : "dDwWsS".toCharArray()) {
             none("[\\" + c + "-a]", "[a-\\" + c + "]", "[\\" + c + "-\\" + c + "]", "[\\" + c + "--]");
-            one("[\\" + c + "-]", "[-\\" + c + "]", "[\\" + c + "a-b]", "[a-b\\" + c + "]", "[\\" + c + "\\-a]", "[a\\-\\" + c + "]", "[^\\" + c + "-]");
+            one("[\\" + c + "-]", "[-\\" + c + "]", "[\\" + c + "a-b]", "[a-b\\" + c + "]", "[\\" + c + "\\-a]", "[a\\-\\" + c
+                + "]", "[^\\" + c + "-]");
         }
     }
 
@@ -273,7 +277,8 @@ public final class EdgePatternTest {
         yes("^[\\x41\\u0042]$", "A", "B");
         none("\\x", "\\x4", "\\u", "\\u0", "\\u00", "\\u004", "[\\x4]", "[\\u004]", "\\x{41}", "\\X41", "\\U0041");
         for (char c : "/:@G`g -".toCharArray()) {
-            none("\\x" + c + "1", "\\x1" + c, "\\u" + c + "000", "\\u0" + c + "00", "\\u00" + c + "0", "\\u000" + c, "\\u{" + c + "}", "\\u{4" + c + "}");
+            none("\\x" + c + "1", "\\x1" + c, "\\u" + c + "000", "\\u0" + c + "00", "\\u00" + c + "0", "\\u000" + c, "\\u{" + c
+                + "}", "\\u{4" + c + "}");
         }
         one("\\ud800", "\\udfff", "[\\ud800-\\udfff]");
         no("\\ud83d", "\ud83d\ude00");
@@ -289,13 +294,16 @@ public final class EdgePatternTest {
         yes("^[\\u{10000}-\\u{10FFFF}]$", character(0x10000), character(0x10FFFF));
         no("^[\\u{10000}-\\u{10FFFF}]$", "\uffff");
         one("\\u{D800}", "\\u{" + Bench.times(100, "0") + "1}");
-        none("\\u{110000}", "\\u{10FFFF0}", "\\u{ffffff}", "\\u{100000000}", "\\u{10000000041}", "\\u{7fffffffffffffff}", "\\u{}", "\\u{", "\\u{41", "\\u{41]", "\\u{ 41}", "\\u{41 }",
+        none("\\u{110000}", "\\u{10FFFF0}", "\\u{ffffff}", "\\u{100000000}", "\\u{10000000041}", "\\u{7fffffffffffffff}", "\\u{}",
+            "\\u{", "\\u{41", "\\u{41]", "\\u{ 41}", "\\u{41 }",
             "\\u{-1}", "\\u{+1}", "[\\u{110000}]", "[\\u{41]");
     }
 
     private static void classes() {
-        int[] blanks = {9, 10, 11, 12, 13, 32, 0xA0, 0x1680, 0x2000, 0x2005, 0x200A, 0x2028, 0x2029, 0x202F, 0x205F, 0x3000, 0xFEFF};
-        int[] others = {0, 8, 14, 31, 33, 0x85, 0x9F, 0xA1, 0x167F, 0x1681, 0x180E, 0x1FFF, 0x200B, 0x2027, 0x202A, 0x202E, 0x2030, 0x205E, 0x2060, 0x2FFF, 0x3001, 0xFEFE,
+        int[] blanks = {9, 10, 11, 12, 13, 32, 0xA0, 0x1680, 0x2000, 0x2005, 0x200A, 0x2028, 0x2029, 0x202F, 0x205F, 0x3000,
+            0xFEFF};
+        int[] others = {0, 8, 14, 31, 33, 0x85, 0x9F, 0xA1, 0x167F, 0x1681, 0x180E, 0x1FFF, 0x200B, 0x2027, 0x202A, 0x202E,
+            0x2030, 0x205E, 0x2060, 0x2FFF, 0x3001, 0xFEFE,
             0xFF00, 0x10FFFF};
         for (int c : blanks) {
             yes("^\\s$", character(c));
@@ -337,10 +345,13 @@ public final class EdgePatternTest {
 
     private static void thirtyInOneAnother() {
         one(Bench.times(30, "(") + Bench.times(30, ")"), Bench.times(30, "(?:") + Bench.times(30, ")"), Bench.times(60, "()"),
-            Bench.times(2, Bench.times(30, "(") + Bench.times(30, ")")), Bench.times(29, "(") + Bench.times(50, "(a)") + Bench.times(29, ")"));
-        none(Bench.times(31, "(") + Bench.times(31, ")"), Bench.times(31, "(?:") + Bench.times(31, ")"), "()" + Bench.times(31, "(") + Bench.times(31, ")"),
+            Bench.times(2, Bench.times(30, "(") + Bench.times(30, ")")), Bench.times(29, "(") + Bench.times(50, "(a)")
+            + Bench.times(29, ")"));
+        none(Bench.times(31, "(") + Bench.times(31, ")"), Bench.times(31, "(?:") + Bench.times(31, ")"), "()" + Bench.times(31,
+            "(") + Bench.times(31, ")"),
             Bench.times(30, "(") + "a()" + Bench.times(30, ")"));
-        none(Bench.times(31, "(") + Bench.times(30, ")"), Bench.times(30, "(") + Bench.times(31, ")"), Bench.times(30, "(") + Bench.times(29, ")"));
+        none(Bench.times(31, "(") + Bench.times(30, ")"), Bench.times(30, "(") + Bench.times(31, ")"), Bench.times(30, "(")
+            + Bench.times(29, ")"));
         // in a set, and escaped, it is none
         one(Bench.times(30, "(") + "[(]\\(" + Bench.times(30, ")"));
         yes("^" + Bench.times(30, "(") + "a" + Bench.times(30, ")") + "$", "a");
@@ -354,7 +365,8 @@ public final class EdgePatternTest {
 
     private static void sizeOfSingles() {
         size(0, "");
-        for (String single : new String[] {"a", ".", "^", "$", "|", "\\d", "\\x41", "\\u0041", "\\u{41}", "[]", "[^]", "[a-z0-9_]", "\\(", "\u00e9"}) {
+        for (String single : new String[] {"a", ".", "^", "$", "|", "\\d", "\\x41", "\\u0041", "\\u{41}", "[]", "[^]",
+            "[a-z0-9_]", "\\(", "\u00e9"}) {
             size(1, single);
             size(100, Bench.times(100, single));
             size(400, Bench.times(400, single));
@@ -406,7 +418,8 @@ public final class EdgePatternTest {
         size(351, "(a{6}){50}");
         none("(a{7}){50}", "(a{8}){50}", "((a{3}){3}){50}", "((((a{50}){50}){50}){50}){50}");
         one("(" + Bench.times(400, "a") + ")", "(?:" + Bench.times(199, "a") + "|" + Bench.times(200, "b") + ")");
-        none("(" + Bench.times(401, "a") + ")", "(?:" + Bench.times(200, "a") + "|" + Bench.times(200, "b") + ")", "(" + Bench.times(400, "a") + "){1}");
+        none("(" + Bench.times(401, "a") + ")", "(?:" + Bench.times(200, "a") + "|" + Bench.times(200, "b") + ")", "("
+            + Bench.times(400, "a") + "){1}");
         one("(" + Bench.times(399, "a") + "){1}");
     }
 
@@ -447,19 +460,23 @@ public final class EdgePatternTest {
         yes("(x*)*y|b$", Bench.times(3990, "b"));
         no("(b?){50}c", Bench.times(3000, "b"));
         one("[" + Bench.times(3998, "a") + "]", "[" + Bench.times(1999, "\\w") + "]", "(" + Bench.times(3900, "a") + "){0}");
-        none("[" + Bench.times(3999, "a"), Bench.times(4000, "a"), Bench.times(4000, "("), Bench.times(4000, "\\"), Bench.times(4000, "["));
+        none("[" + Bench.times(3999, "a"), Bench.times(4000, "a"), Bench.times(4000, "("), Bench.times(4000, "\\"),
+            Bench.times(4000, "["));
         yes("[" + Bench.times(3996, "a") + "b]", "b");
     }
 
     private static void whoIsNoString() {
         Bench bench = new Bench();
         bench.instance("{\"a\":\"b\",\"(\":[null,true,false,1,{},\"\"]}");
-        String[] kinds = {"object", "name", "string", "name", "array", "null", "true", "false", "number", "object", "empty string"};
+        String[] kinds = {"object", "name", "string", "name", "array", "null", "true", "false", "number", "object",
+            "empty string"};
         for (int v = 0; v < kinds.length; v++) {
             int w = v;
             boolean string = kinds[v].equals("name") || kinds[v].endsWith("string");
-            Bench.same("a " + kinds[v] + " by a pattern", Bench.outcome(() -> bench.judge.matches(w, 10)), string ? "true" : NONE);
-            Bench.same("a string by a " + kinds[v], Bench.outcome(() -> bench.judge.matches(1, w)), !string || v == 3 ? NONE : v == 2 ? "false" : "true");
+            Bench.same("a " + kinds[v] + " by a pattern", Bench.outcome(() -> bench.judge.matches(w, 10)),
+                string ? "true" : NONE);
+            Bench.same("a string by a " + kinds[v], Bench.outcome(() -> bench.judge.matches(1, w)),
+                !string || v == 3 ? NONE : v == 2 ? "false" : "true");
         }
     }
 }

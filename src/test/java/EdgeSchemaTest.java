@@ -56,11 +56,14 @@ public final class EdgeSchemaTest {
     }
 
     private static void otherNamesAreNotLookedAt() {
-        good("{'':1}", "{'Type':1}", "{'typE':1}", "{'typ':1}", "{'typee':1}", "{' type':1}", "{'type\\u0000':1}", "{'$ids':1}", "{'id':1}", "{'ref':1}",
-            "{'$Ref':1}", "{'$schema':1}", "{'definitions':1}", "{'format':1}", "{'maxlength':-1}", "{'dependencies':1}", "{'additionalItems':1}");
+        good("{'':1}", "{'Type':1}", "{'typE':1}", "{'typ':1}", "{'typee':1}", "{' type':1}", "{'type\\u0000':1}", "{'$ids':1}",
+            "{'id':1}", "{'ref':1}",
+            "{'$Ref':1}", "{'$schema':1}", "{'definitions':1}", "{'format':1}", "{'maxlength':-1}", "{'dependencies':1}",
+            "{'additionalItems':1}");
         checks("1 at 2", "{'t\\u0079pe':1}");
         // in what is no SCHEMA there are no KEYWORDS
-        good("{'x':{'type':1}}", "{'const':{'type':1}}", "{'enum':[{'$id':1}]}", "{'x':[{'$anchor':'a'},{'$anchor':'a'}]}", "{'properties':{'type':{}}}",
+        good("{'x':{'type':1}}", "{'const':{'type':1}}", "{'enum':[{'$id':1}]}", "{'x':[{'$anchor':'a'},{'$anchor':'a'}]}",
+            "{'properties':{'type':{}}}",
             "{'$defs':{'$id':true,'$ref':false}}", "{'dependentRequired':{'type':[]}}");
     }
 
@@ -92,7 +95,8 @@ public final class EdgeSchemaTest {
     }
 
     private static void fromZeroToAMillion() {
-        String[] names = {"maxLength", "minLength", "maxItems", "minItems", "maxContains", "minContains", "maxProperties", "minProperties"};
+        String[] names = {"maxLength", "minLength", "maxItems", "minItems", "maxContains", "minContains", "maxProperties",
+            "minProperties"};
         for (String name : names) {
             keyword(name, "0 at -1", "0 -0 0.0 0e-999 1 999999 1000000 1e6 1E+6 1000000.0 10000000e-1 0.1e7 0.000001e12 1.0 "
                 + "1000000." + Bench.times(53, "0"));
@@ -184,9 +188,12 @@ public final class EdgeSchemaTest {
     }
 
     private static void anchorThatIsThereAlready() {
-        good("{'$anchor':'a','not':{'$anchor':'A'}}", "{'$anchor':'a','not':{'$anchor':'aa'}}", "{'$anchor':'a','x':{'$anchor':'a'}}");
-        checks("3 at 6", "{'$anchor':'a','not':{'$anchor':'a'}}", "{'$anchor':'a','not':{'$anchor':'\\u0061'}}", "{'not':{'$anchor':'a'},'$anchor':'a'}");
-        checks("3 at 8", "{'allOf':[{'$anchor':'a'},{'$anchor':'a'}]}", "{'allOf':[{'$anchor':'a'},{'$anchor':'a'},{'$anchor':'a'}]}");
+        good("{'$anchor':'a','not':{'$anchor':'A'}}", "{'$anchor':'a','not':{'$anchor':'aa'}}",
+            "{'$anchor':'a','x':{'$anchor':'a'}}");
+        checks("3 at 6", "{'$anchor':'a','not':{'$anchor':'a'}}", "{'$anchor':'a','not':{'$anchor':'\\u0061'}}",
+            "{'not':{'$anchor':'a'},'$anchor':'a'}");
+        checks("3 at 8", "{'allOf':[{'$anchor':'a'},{'$anchor':'a'}]}",
+            "{'allOf':[{'$anchor':'a'},{'$anchor':'a'},{'$anchor':'a'}]}");
         // one that is no name is not there
         checks("1 at 2", "{'$anchor':'-','not':{'$anchor':'-'}}");
     }
@@ -203,9 +210,12 @@ public final class EdgeSchemaTest {
     }
 
     private static void thenTheSixth() {
-        checks("6 at 0", "{'$ref':'#'}", "{'not':{'$ref':'#'}}", "{'if':{'$ref':'#'}}", "{'then':{'$ref':'#'}}", "{'else':{'$ref':'#'}}",
-            "{'allOf':[{'$ref':'#'}]}", "{'anyOf':[true,{'$ref':'#'}]}", "{'oneOf':[true,true,{'$ref':'#'}]}", "{'dependentSchemas':{'a':true,'b':{'$ref':'#'}}}");
-        good("{'items':{'$ref':'#'}}", "{'contains':{'$ref':'#'}}", "{'additionalProperties':{'$ref':'#'}}", "{'propertyNames':{'$ref':'#'}}",
+        checks("6 at 0", "{'$ref':'#'}", "{'not':{'$ref':'#'}}", "{'if':{'$ref':'#'}}", "{'then':{'$ref':'#'}}",
+            "{'else':{'$ref':'#'}}",
+            "{'allOf':[{'$ref':'#'}]}", "{'anyOf':[true,{'$ref':'#'}]}", "{'oneOf':[true,true,{'$ref':'#'}]}",
+            "{'dependentSchemas':{'a':true,'b':{'$ref':'#'}}}");
+        good("{'items':{'$ref':'#'}}", "{'contains':{'$ref':'#'}}", "{'additionalProperties':{'$ref':'#'}}",
+            "{'propertyNames':{'$ref':'#'}}",
             "{'unevaluatedItems':{'$ref':'#'}}", "{'unevaluatedProperties':{'$ref':'#'}}", "{'prefixItems':[{'$ref':'#'}]}",
             "{'properties':{'a':{'$ref':'#'}}}", "{'patternProperties':{'a':{'$ref':'#'}}}", "{'$defs':{'a':{'$ref':'#'}}}");
         // 1 to 5 come before it
@@ -217,9 +227,11 @@ public final class EdgeSchemaTest {
     }
 
     private static void theLeastCircle() {
-        checks("6 at 4", "{'$defs':{'a':{'$ref':'#/$defs/a'},'b':{'$ref':'#/$defs/b'}}}", "{'$defs':{'a':{'$ref':'#/$defs/b'},'b':{'$ref':'#/$defs/a'}}}");
+        checks("6 at 4", "{'$defs':{'a':{'$ref':'#/$defs/a'},'b':{'$ref':'#/$defs/b'}}}",
+            "{'$defs':{'a':{'$ref':'#/$defs/b'},'b':{'$ref':'#/$defs/a'}}}");
         // what leads into a circle is not in it
-        checks("6 at 8", "{'$defs':{'a':{'$ref':'#/$defs/b'},'b':{'$ref':'#/$defs/b'}}}", "{'$ref':'#/$defs/b','$defs':{'b':{'not':{'$ref':'#/$defs/b/not'}}}}");
+        checks("6 at 8", "{'$defs':{'a':{'$ref':'#/$defs/b'},'b':{'$ref':'#/$defs/b'}}}",
+            "{'$ref':'#/$defs/b','$defs':{'b':{'not':{'$ref':'#/$defs/b/not'}}}}");
         checks("6 at 4", "{'items':{'items':{'$ref':'#/items/items'}}}", "{'items':{'items':{'not':{'$ref':'#/items/items'}}}}");
         checks("6 at 2", "{'items':{'$ref':'#/items'}}", "{'items':{'allOf':[{'$ref':'#/items'}]}}");
         // the longest circle that a SCHEMA has room for, and the same one open
@@ -234,7 +246,8 @@ public final class EdgeSchemaTest {
         // two ways from each to the next one: as many ways in all as no row has room for
         StringBuilder wide = new StringBuilder("{'$defs':{");
         for (int i = 0; i < 30; i++) {
-            wide.append("'a").append(i).append("':{'allOf':[{'$ref':'#/$defs/b").append("'},{'$ref':'#/$defs/a").append(i + 1).append("'},{'$ref':'#/$defs/a").append(i + 1).append("'}]},");
+            wide.append("'a").append(i).append("':{'allOf':[{'$ref':'#/$defs/b").append("'},{'$ref':'#/$defs/a").append(i
+                + 1).append("'},{'$ref':'#/$defs/a").append(i + 1).append("'}]},");
         }
         checks("6 at 4", wide + "'b':true,'a30':{'$ref':'#/$defs/a0'}}}");
         good(wide + "'b':true,'a30':{'$ref':'#/$defs/b'}}}");
@@ -258,26 +271,32 @@ public final class EdgeSchemaTest {
 
     private static void whatIsASchema() {
         leads("#", "#/$defs/a", "#/$defs/", "#/prefixItems/1", "#/allOf/0", "#/$defs/b/not", "#/prefixItems/10/not");
-        lost("#/$defs", "#/prefixItems", "#/allOf", "#/x", "#/x/a", "#/const", "#/const/a", "#/enum", "#/enum/0", "#/allOf/0/const", "#/$anchor", "#/",
+        lost("#/$defs", "#/prefixItems", "#/allOf", "#/x", "#/x/a", "#/const", "#/const/a", "#/enum", "#/enum/0",
+            "#/allOf/0/const", "#/$anchor", "#/",
             "#/items/$ref", "#/$defs/b/not/$anchor");
     }
 
     private static void wholeAndAnchorReferences() {
         leads("#", "#top", "#in");
-        lost("", " ", "# ", " #", "##", "#Top", "#to", "#topp", "#in/", "#in/not", "top", "#-", "a", "a#", "http://a/b", "a#top", "#x");
+        lost("", " ", "# ", " #", "##", "#Top", "#to", "#topp", "#in/", "#in/not", "top", "#-", "a", "a#", "http://a/b", "a#top",
+            "#x");
     }
 
     private static void partsOfReferences() {
         leads("#/$defs/a", "#/$defs/b/not", "#/$defs/", "#/$defs/0", "#/$defs/%");
-        lost("/", "/$defs/a", "$defs/a", "#$defs/a", "#//$defs/a", "#/$defs//a", "#/$defs/a/", "#/$defs/c", "#/$Defs/a", "#/$defs/a/a", "#/$defs//", "#/a",
+        lost("/", "/$defs/a", "$defs/a", "#$defs/a", "#//$defs/a", "#/$defs//a", "#/$defs/a/", "#/$defs/c", "#/$Defs/a",
+            "#/$defs/a/a", "#/$defs//", "#/a",
             "#/$defs/b/not/", "#/$defs/a ", "#/ $defs/a", "#/$defs/00");
     }
 
     private static void placesInArrays() {
         leads("#/prefixItems/0", "#/prefixItems/1", "#/prefixItems/9", "#/prefixItems/10");
-        lost("#/prefixItems/11", "#/prefixItems/00", "#/prefixItems/01", "#/prefixItems/010", "#/prefixItems/", "#/prefixItems/-0", "#/prefixItems/-1", "#/prefixItems/+1",
-            "#/prefixItems/1.0", "#/prefixItems/1e0", "#/prefixItems/ 1", "#/prefixItems/1 ", "#/prefixItems/a", "#/prefixItems/:", "#/prefixItems/60",
-            "#/prefixItems/100", "#/prefixItems/4294967296", "#/prefixItems/4294967297", "#/prefixItems/18446744073709551616", "#/prefixItems/\u0661",
+        lost("#/prefixItems/11", "#/prefixItems/00", "#/prefixItems/01", "#/prefixItems/010", "#/prefixItems/",
+            "#/prefixItems/-0", "#/prefixItems/-1", "#/prefixItems/+1",
+            "#/prefixItems/1.0", "#/prefixItems/1e0", "#/prefixItems/ 1", "#/prefixItems/1 ", "#/prefixItems/a",
+            "#/prefixItems/:", "#/prefixItems/60",
+            "#/prefixItems/100", "#/prefixItems/4294967296", "#/prefixItems/4294967297", "#/prefixItems/18446744073709551616",
+            "#/prefixItems/\u0661",
             "#/prefixItems/1" + Bench.times(300, "0"), "#/allOf/1");
         String sixty = "{'items':{'$ref':'#/prefixItems/REF'},'prefixItems':" + list(60, "true") + "}";
         checks("0 at -1", sixty.replace("REF", "59"));
@@ -285,12 +304,15 @@ public final class EdgeSchemaTest {
     }
 
     private static void percentSigns() {
-        leads("#/$defs/%61", "#/%24%64efs/a", "#/$defs%2Fa", "#/$defs%2fa", "%23", "%23/$defs/a", "#%2F$defs/a", "#%74op", "#/prefixItems/%31%30", "#/$defs/%41");
+        leads("#/$defs/%61", "#/%24%64efs/a", "#/$defs%2Fa", "#/$defs%2fa", "%23", "%23/$defs/a", "#%2F$defs/a", "#%74op",
+            "#/prefixItems/%31%30", "#/$defs/%41");
         // another % is itself
         leads("#/$defs/%", "#/$defs/%2", "#/$defs/%25", "#/$defs/%252", "#/$defs/%2541");
-        lost("#/$defs/%6", "#/$defs/%6g", "#/$defs/%g1", "#/$defs/%%61", "#/$defs/%2561", "#/$defs/%61%", "#/$defs/%00", "#/$defs/% 61", "#/$defs/%2%35");
+        lost("#/$defs/%6", "#/$defs/%6g", "#/$defs/%g1", "#/$defs/%%61", "#/$defs/%2561", "#/$defs/%61%", "#/$defs/%00",
+            "#/$defs/% 61", "#/$defs/%2%35");
         String own = "{'items':{'$ref':'#/$defs/REF'},'$defs':{'REF':{}}}";
-        for (String name : new String[] {"%", "%%", "%%%", "%0", "%g0", "%0g", "%@0", "%0@", "%`0", "%0`", "%:0", "%0:", "% 0", "a%", "%\u00e9"}) {
+        for (String name : new String[] {"%", "%%", "%%%", "%0", "%g0", "%0g", "%@0", "%0@", "%`0", "%0`", "%:0", "%0:", "% 0",
+            "a%", "%\u00e9"}) {
             checks("0 at -1", own.replace("REF", name));
         }
         for (String name : new String[] {"%00", "%7F", "%aF", "%09", "%fe"}) {
@@ -314,7 +336,8 @@ public final class EdgeSchemaTest {
         named("\udbff\udfff", "%f4%8f%bf%bf", "0 at -1");
         named("\u00e9a", "%c3%a9a", "0 at -1");
         named("\\u0000", "%00", "0 at -1");
-        String[] none = {"%80", "%BF", "%C0%80", "%C1%BF", "%C2", "%C2%", "%C2%7F", "%C2%C0", "%C2a", "%E0%9F%BF", "%E0%A0", "%ED%A0%80", "%ED%BF%BF", "%F0%8F%BF%BF",
+        String[] none = {"%80", "%BF", "%C0%80", "%C1%BF", "%C2", "%C2%", "%C2%7F", "%C2%C0", "%C2a", "%E0%9F%BF", "%E0%A0",
+            "%ED%A0%80", "%ED%BF%BF", "%F0%8F%BF%BF",
             "%F4%90%80%80", "%F5%80%80%80", "%FF", "%C3\u00a9", "%E2%82", "%F0%90%80", "%C2\u0080"};
         for (String reference : none) {
             named("x", reference, "5 at 4");
@@ -326,7 +349,8 @@ public final class EdgeSchemaTest {
 
     private static void tildes() {
         leads("#/$defs/~0", "#/$defs/~1", "#/$defs/~00", "#/$defs/%7E0", "#/$defs/~%30", "#/$defs/%7e%31");
-        lost("#/$defs/~", "#/$defs/~2", "#/$defs/~a", "#/$defs/~~", "#/$defs/~~0", "#/$defs/a~", "#/$defs/~/", "#/$defs/~0/~", "#/$defs/~1~", "#/prefixItems/~0", "#~0", "#~1$defs~1a",
+        lost("#/$defs/~", "#/$defs/~2", "#/$defs/~a", "#/$defs/~~", "#/$defs/~~0", "#/$defs/a~", "#/$defs/~/", "#/$defs/~0/~",
+            "#/$defs/~1~", "#/prefixItems/~0", "#~0", "#~1$defs~1a",
             "#top~", "#/~", "#/$defs/~/0");
         named("~1", "~01", "0 at -1");
         named("~1", "~1", "5 at 4");

@@ -84,8 +84,10 @@ public final class EdgeTextTest {
         wrong(2, "'a" + octets(0xE0, 0x9F, 0xBF) + "'", "'a" + octets(0xE0, 0x80, 0x80) + "'");
         wrong(2, "'a" + octets(0xF0, 0x8F, 0xBF, 0xBF) + "'", "'a" + octets(0xF0, 0x80, 0x80, 0x80) + "'");
         // no octet that begins one, too few behind, too many behind, another one behind
-        wrong(2, "'a" + octets(0x80) + "'", "'a" + octets(0xBF) + "'", "'a" + octets(0xFF) + "'", "'a" + octets(0xF8, 0x88, 0x80, 0x80, 0x80) + "'");
-        wrong(2, "'a" + octets(0xC3) + "'", "'a" + octets(0xE2, 0x82) + "'", "'a" + octets(0xF0, 0x9F, 0x98) + "'", "'a" + octets(0xC3));
+        wrong(2, "'a" + octets(0x80) + "'", "'a" + octets(0xBF) + "'", "'a" + octets(0xFF) + "'", "'a" + octets(0xF8, 0x88, 0x80,
+            0x80, 0x80) + "'");
+        wrong(2, "'a" + octets(0xC3) + "'", "'a" + octets(0xE2, 0x82) + "'", "'a" + octets(0xF0, 0x9F, 0x98) + "'", "'a"
+            + octets(0xC3));
         wrong(2, "'a" + octets(0xC3, 0x7F) + "'", "'a" + octets(0xC3, 0xC0) + "'", "'a" + octets(0xE2, 0x82, 0x2E) + "'",
             "'a" + octets(0xF0, 0x9F, 0xC0, 0x80) + "'", "'a" + octets(0xF0, 0x9F, 0x80, 0xFF) + "'");
         wrong(4, "'a" + octets(0xC3, 0xA9, 0xA9) + "'");
@@ -102,7 +104,8 @@ public final class EdgeTextTest {
 
     private static void upTo10ffff() {
         right(1, "'" + octets(0xF4, 0x8F, 0xBF, 0xBF) + "'");
-        wrong(1, "'" + octets(0xF4, 0x90, 0x80, 0x80) + "'", "'" + octets(0xF5, 0x80, 0x80, 0x80) + "'", "'" + octets(0xF7, 0xBF, 0xBF, 0xBF) + "'");
+        wrong(1, "'" + octets(0xF4, 0x90, 0x80, 0x80) + "'", "'" + octets(0xF5, 0x80, 0x80, 0x80) + "'", "'" + octets(0xF7, 0xBF,
+            0xBF, 0xBF) + "'");
     }
 
     private static void oneValue() {
@@ -118,7 +121,8 @@ public final class EdgeTextTest {
         for (int c : new int[] {9, 10, 13, 32}) {
             String b = octets(c);
             right(1, b + "1" + b + b, b + "[" + b + "]" + b, b + "{" + b + "}" + b);
-            right(6, b + "[" + b + "1" + b + "," + b + "{" + b + "'a'" + b + ":" + b + "1" + b + "}" + b + "," + b + "2" + b + "]" + b);
+            right(6, b + "[" + b + "1" + b + "," + b + "{" + b + "'a'" + b + ":" + b + "1" + b + "}" + b + "," + b + "2" + b + "]"
+                + b);
         }
         for (int c : new int[] {0, 8, 11, 12, 14, 31, 33, 127, 160}) {
             String b = octets(c);
@@ -222,7 +226,8 @@ public final class EdgeTextTest {
     }
 
     private static void noPairOfSurrogates() {
-        String[] behind = {"", "'", "a'", "\\", "\\'", "\\n'", "\\q'", "\\u", "\\u'", "\\u00g0'", "\\uDC0", "\\u0041'", "\\uD800'", "\\uDBFF\\uDC00'",
+        String[] behind = {"", "'", "a'", "\\", "\\'", "\\n'", "\\q'", "\\u", "\\u'", "\\u00g0'", "\\uDC0", "\\u0041'",
+            "\\uD800'", "\\uDBFF\\uDC00'",
             "\\uE000'", "\\udbff'", octets(0xFF) + "'", octets(1), utf8(0x10000) + "'"};
         for (String tail : behind) {
             wrong(2, "'a\\uD800" + tail, "'a\\uDBFF" + tail);
@@ -327,7 +332,8 @@ public final class EdgeTextTest {
         wrong(4002, full + "\\q'", full + "\\", full + "\\U");
         wrong(4003, full + "\\u'", full + "\\ug");
         wrong(4006, full + "\\u000g");
-        wrong(4001, full + "\\uD800'", full + "\\uD800\\q'", full + "\\uDC00'", full + octets(0xFF) + "'", full + octets(0xC3) + "'", full + "\n'");
+        wrong(4001, full + "\\uD800'", full + "\\uD800\\q'", full + "\\uDC00'", full + octets(0xFF) + "'", full + octets(0xC3)
+            + "'", full + "\n'");
         wrong(4001, full);
     }
 
@@ -336,7 +342,8 @@ public final class EdgeTextTest {
             right(1, word);
             for (int i = 1; i < word.length(); i++) {
                 String front = word.substring(0, i);
-                wrong(i, front, front + "x", front + word.substring(i).toUpperCase(), front + " " + word.substring(i), front + "]");
+                wrong(i, front, front + "x", front + word.substring(i).toUpperCase(), front + " " + word.substring(i), front
+                    + "]");
                 wrong(1 + i, "[" + front + "]");
             }
             wrong(word.length(), word + "x", word + word);

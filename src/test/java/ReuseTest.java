@@ -31,7 +31,8 @@ public final class ReuseTest {
             for (int i = 0; i < 30; i++) {
                 String schema = SCHEMAS[(i * step + i / 7) % SCHEMAS.length];
                 String instance = INSTANCES[(i * (step + 2) + i / 5) % INSTANCES.length];
-                Bench.same("used object, " + schema + " on " + instance, all(used, schema, instance), all(new Bench(), schema, instance));
+                Bench.same("used object, " + schema + " on " + instance, all(used, schema, instance), all(new Bench(), schema,
+                    instance));
             }
         }
         patternsOneBehindTheOther();
@@ -42,8 +43,10 @@ public final class ReuseTest {
     }
 
     private static final String[] PATTERNS = {
-        "\\\\d", "\\\\", "a{2}", "a{2", "a{", "[abc]", "[x]", "[^x]", "[b]", "[", "(a)", "(a", "(", "(?:a)", "(?:", "(?", "\\\\u{62}", "\\\\u{62", "\\\\x62", "\\\\x6", "\\\\u0062", "\\\\u006",
-        "b|", "b", "(c|b)*d", "^b*$", "^(b|c)?$", "x*", "^x", "[a-c]", "[a-", "[c-a]", "[^\\\\d]", "[\\\\d]", "[\\\\w]", "[]", "[^]", "(b){50}", "", "b{0}$", "^$", "a+?", "b$", "(", ")"
+        "\\\\d", "\\\\", "a{2}", "a{2", "a{", "[abc]", "[x]", "[^x]", "[b]", "[", "(a)", "(a", "(", "(?:a)", "(?:", "(?",
+            "\\\\u{62}", "\\\\u{62", "\\\\x62", "\\\\x6", "\\\\u0062", "\\\\u006",
+        "b|", "b", "(c|b)*d", "^b*$", "^(b|c)?$", "x*", "^x", "[a-c]", "[a-", "[c-a]", "[^\\\\d]", "[\\\\d]", "[\\\\w]", "[]",
+        "[^]", "(b){50}", "", "b{0}$", "^$", "a+?", "b$", "(", ")"
     };
 
     /** Each PATTERN behind each other one in the same object. */
@@ -83,12 +86,14 @@ public final class ReuseTest {
         Bench.checks("{\"items\":{\"$ref\":\"#/not\"},\"not\":{\"$ref\":\"\"}}", "5 at 8");
         Bench.checks("{\"items\":{\"$ref\":\"#/$defs/a~0\"},\"not\":{\"$ref\":\"#/$defs/a~\"},\"$defs\":{\"a~\":{}}}", "5 at 8");
         Bench.checks("{\"items\":{\"$ref\":\"#/$defs/ab\"},\"not\":{\"$ref\":\"#/$defs/a\"},\"$defs\":{\"ab\":{}}}", "5 at 8");
-        Bench.checks("{\"items\":{\"$ref\":\"#/$defs/a%41\"},\"not\":{\"$ref\":\"#/$defs/a%4\"},\"$defs\":{\"aA\":{}}}", "5 at 8");
+        Bench.checks("{\"items\":{\"$ref\":\"#/$defs/a%41\"},\"not\":{\"$ref\":\"#/$defs/a%4\"},\"$defs\":{\"aA\":{}}}",
+            "5 at 8");
     }
 
     private static void divisionsOneBehindTheOther() {
         Bench.judges("{\"items\":{\"multipleOf\":3}}", "[1,3,2,3,5,12,12e60,-7,0,21]", "bad 0:2 1:4 3:4 5:4 8:4");
-        Bench.judges("{\"items\":{\"multipleOf\":10000000000000000000001}}", "[1e50,10000000000000000000001,99,30000000000000000000003]", "bad 0:2 1:4 3:4");
+        Bench.judges("{\"items\":{\"multipleOf\":10000000000000000000001}}",
+            "[1e50,10000000000000000000001,99,30000000000000000000003]", "bad 0:2 1:4 3:4");
     }
 
     private static String all(Bench bench, String schema, String instance) {
