@@ -5,7 +5,15 @@ final class Bench {
     private static int compared = 0;
     private static int failed = 0;
 
-    final SchemaJudge judge = new SchemaJudge();
+    final SchemaJudge judge;
+
+    Bench() {
+        this(new SchemaJudge());
+    }
+
+    Bench(SchemaJudge judge) {
+        this.judge = judge;
+    }
 
     static void same(String what, Object got, Object due) {
         compared++;
